@@ -474,7 +474,7 @@ public final class CaptionLines {
             wordBegins = new int[MOST_WORDS];
             wordEnds = new int[MOST_WORDS];
             words = 0;
-            leastFrom = new int[MOST_WORDS + 1];
+            leastFrom = new int[MOST_WORDS];
             nextFirst = new int[MOST_WORDS];
             lineBegins = new int[MOST_WORDS];
             lineSigns = new int[MOST_WORDS];
@@ -540,7 +540,6 @@ public final class CaptionLines {
          * ahead of it. Only a smaller sum takes the place of one found with fewer words in the line.
          */
         private void findLeast(int width) {
-            leastFrom[words] = 0;
             for (int first = words - 1; first >= 0; first--) {
                 leastFrom[first] = Integer.MAX_VALUE;
                 nextFirst[first] = words;
@@ -549,6 +548,7 @@ public final class CaptionLines {
                     if (rest < 0) {
                         break;
                     }
+                    // The last line's rest does not count.
                     int squares = next == words ? 0 : rest * rest + leastFrom[next];
                     if (squares < leastFrom[first]) {
                         leastFrom[first] = squares;

@@ -140,6 +140,8 @@ public final class TextTest {
         }
         DUE.answers(200, "versions of all", () -> c.count(1));
         DUE.answers(46, "the last sign of the last version", () -> c.sign(9, 4, 3, 1));
+        DUE.answers("throws.IndexOutOfBoundsException", "no version 4 of the last", () -> c.sign(9, 4, 4, 0));
+        DUE.answers("throws.IndexOutOfBoundsException", "no version 4 of the first", () -> c.sign(0, 0, 4, 0));
     }
 
     private static void refusals() {
