@@ -5,7 +5,7 @@ import java.util.Map;
 import java.util.TreeMap;
 
 /**
- * Runs of 512 calls, wrong ones among them, against a second writing of the document in other ways: texts
+ * Runs of at most 512 calls, wrong ones among them, against a second writing of the document in other ways: texts
  * by a pattern, lines by comparing whole ways, ways by distances. The runs are the same each time.
  */
 public final class ModelTest {
