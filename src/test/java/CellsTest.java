@@ -1,28 +1,27 @@
 /** Promises 11 to 14: contract, fingers, cell, back. */
 public final class CellsTest {
     private static final Due DUE = new Due();
+    private static final String CONTRACT = "Promise 11: contract";
+    private static final String FINGERS = "Promise 12: fingers";
+    private static final String CELL = "Promise 13: cell";
+    private static final String BACK = "Promise 14: back";
 
     public static void main(String[] args) {
-        ownCells();
-        longestFirst();
-        contracting();
-        allContractions();
-        latestStays();
-        back();
-        refusals();
+        becomesAContraction();
+        isEmptyThen();
+        cellHasOne();
+        rowHasOne();
+        noRowOfLetters();
+        noCellForIt();
+        howManyCells();
+        notShown();
+        noCaptionOrLanguage();
+        cellOfTheLatest();
+        noSuchCell();
+        inPlaceOfThePad();
+        howManySigns();
+        thereWereNone();
         DUE.end();
-    }
-
-    private static void ownCells() {
-        CaptionLines c = new CaptionLines();
-        Due.text(c, 0, 0, "abcdefghijklm nopqrstuvwxyz.");
-        DUE.answers(28, "fingers", () -> c.fingers(0, 0));
-        DUE.answers("1 2 3 4 5 6 7 8 9 10 11 12 13 0 14 15 16 17 18 19 20 21 22 23 24 25 26 27", "own cells",
-                () -> Due.cells(c));
-    }
-
-    private static void contract(CaptionLines c, String letters, int cell) {
-        DUE.answers(true, "contract " + letters, () -> Due.type(c, letters).contract(cell));
     }
 
     private static void written(CaptionLines c, int caption, String text, String want) {
@@ -31,148 +30,249 @@ public final class CellsTest {
         DUE.answers(want, "\"" + text + "\" as cells", () -> Due.cells(c));
     }
 
-    private static void longestFirst() {
+    private static void becomesAContraction() {
+        DUE.sentence(CONTRACT, "The pad becomes a contraction with a cell");
         CaptionLines c = new CaptionLines();
-        contract(c, "ab", 63);
-        contract(c, "abcde", 28);
-        contract(c, "abcd", 45);
-        contract(c, "cde", 30);
-        written(c, 0, "abcde", "28");
-        written(c, 1, "abcd", "45");
-        written(c, 2, "abcde.", "28 27");
-        written(c, 3, "abc", "63 3");
-        written(c, 4, "aabcdeab", "1 28 63");
-        written(c, 5, "abcdab cde", "45 63 0 30");
-        written(c, 6, "ab. ab cd", "63 27 0 63 0 3 4");
-        written(c, 7, "cdecd a bcde", "30 3 4 0 1 0 2 30");
-        CaptionLines doubles = new CaptionLines();
-        contract(doubles, "aa", 40);
-        written(doubles, 0, "aaa aaaaa", "40 1 0 40 40 1");
-        fromTheBeginningOn();
+        DUE.answers(true, "contract(28)", () -> Due.contract(c, "ab", 28));
+        DUE.answers(1, "contractions", () -> c.count(2));
+        DUE.answers(true, "contract(63)", () -> Due.contract(c, "vwxyz", 63));
+        DUE.answers(2, "contractions", () -> c.count(2));
+        written(c, 0, "ab vwxyz", "28 0 63");
     }
 
-    /** Not the fewest cells: a shorter one ahead may spoil a longer one behind it. */
-    private static void fromTheBeginningOn() {
+    private static void isEmptyThen() {
+        DUE.sentence(CONTRACT, "and is empty");
         CaptionLines c = new CaptionLines();
-        contract(c, "bcdef", 28);
-        contract(c, "ab", 29);
-        written(c, 0, "abcdef", "29 3 4 5 6");
+        Due.contract(c, "abcde", 28);
+        DUE.answers(0, "signs of the pad", () -> c.count(0));
+        DUE.answers(0, "clear()", c::clear);
+        DUE.answers(1, "unit", () -> c.unit('z'));
+        c.text(0, 0);
+        DUE.answers("z", "nothing of the row ahead", () -> Due.version(c, 0, 0, 0));
     }
 
-    private static void contracting() {
-        CaptionLines c = new CaptionLines();
-        contract(c, "ab", 30);
-        DUE.answers(0, "the pad is empty", () -> c.count(0));
-        Due.type(c, "abc");
-        DUE.answers(false, "the cell has one", () -> c.contract(30));
-        DUE.answers(3, "the pad stays", () -> c.count(0));
-        DUE.answers(1, "no contraction more", () -> c.count(2));
-        DUE.answers(true, "another cell", () -> c.contract(31));
-        DUE.answers(2, "two contractions", () -> c.count(2));
-        Due.type(c, "ab");
-        DUE.answers(false, "the row has a cell", () -> c.contract(32));
-        DUE.answers(false, "both", () -> c.contract(30));
-        DUE.answers(2, "the pad stays", () -> c.count(0));
-        c.unit('d');
-        DUE.answers(true, "a row that only begins like another", () -> c.contract(32));
-        contract(c, "bc", 33);
-        contract(c, "ba", 34);
-        contract(c, "abcde", 28);
-        contract(c, "zz", 63);
-        DUE.answers(7, "contractions", () -> c.count(2));
-        DUE.answersAndKeeps(x -> { }, false, "contract(29), the cell's own", x -> x.contract(29));
-        DUE.answersAndKeeps(x -> retype(x, "the"), false, "contract(40) of the", x -> x.contract(40));
-    }
-
-    private static void allContractions() {
-        CaptionLines c = new CaptionLines();
-        for (int cell = 28; cell <= 63; cell++) {
-            int n = cell - 28;
-            contract(c, "" + (char) ('a' + n / 6) + (char) ('a' + n % 6), cell);
+    private static void cellHasOne() {
+        DUE.sentence(CONTRACT, "whether that can be (no, if the cell");
+        for (int cell : new int[] {28, 29, 62, 63}) {
+            CaptionLines c = new CaptionLines();
+            Due.contract(c, "ab", cell);
+            Due.type(c, "cd");
+            DUE.answers(false, "another row with cell " + cell, () -> c.contract(cell));
+            DUE.answers(2, "the pad stays", () -> c.count(0));
+            DUE.answers(1, "no contraction more", () -> c.count(2));
+            DUE.answers(true, "with a free one", () -> c.contract(40));
+            written(c, 0, "ab cd", cell + " 0 40");
         }
-        DUE.answers(36, "all contractions", () -> c.count(2));
-        DUE.answers(false, "no more", () -> Due.type(c, "zz").contract(50));
-        c.clear();
-        written(c, 0, "aaaf fafff.", "28 33 0 58 63 6 27");
+        CaptionLines full = new CaptionLines();
+        for (int cell = 28; cell <= 63; cell++) {
+            int free = cell;
+            DUE.answers(true, "contract(" + cell + ")", () -> Due.contractTwo(full, free));
+        }
+        DUE.answers(36, "all contractions", () -> full.count(2));
+        Due.type(full, "zz");
+        for (int cell = 28; cell <= 63; cell++) {
+            int taken = cell;
+            DUE.answers(false, "contract(" + cell + ") when all are taken", () -> full.contract(taken));
+        }
+        DUE.answers(36, "all contractions still", () -> full.count(2));
+        DUE.keeps(false, "contract(29), the cell's own", x -> x.contract(29));
+        DUE.keeps(false, "contract(30), the cell's own", x -> x.contract(30));
     }
 
-    private static void latestStays() {
+    private static void rowHasOne() {
+        DUE.sentence(CONTRACT, "or the row has one already)");
+        for (String row : new String[] {"ab", "abc", "abcd", "abcde"}) {
+            CaptionLines c = new CaptionLines();
+            Due.contract(c, row, 40);
+            DUE.answers(false, row + " with another cell", () -> Due.contract(c, row, 41));
+            DUE.answers(false, row + " with its own", () -> c.contract(40));
+            DUE.answers(row.length(), "the pad stays", () -> c.count(0));
+            DUE.answers(1, "no contraction more", () -> c.count(2));
+            c.clear();
+            written(c, 0, row, "40");
+        }
+        CaptionLines c = new CaptionLines();
+        Due.contract(c, "abc", 30);
+        DUE.answers(true, "a row that another one begins with", () -> Due.contract(c, "ab", 31));
+        DUE.answers(true, "a row that begins with another one", () -> Due.contract(c, "abcd", 32));
+        DUE.answers(true, "a row that another one ends with", () -> Due.contract(c, "bc", 33));
+        DUE.answers(true, "the same letters the other way round", () -> Due.contract(c, "cba", 34));
+        DUE.keepsAfter(x -> Due.retype(x, "the"), false, "contract(40) of the", x -> x.contract(40));
+        DUE.keepsAfter(x -> Due.retype(x, "he"), false, "contract(29) of he", x -> x.contract(29));
+        DUE.keepsAfter(x -> Due.retype(x, "he"), false, "contract(30) of he", x -> x.contract(30));
+    }
+
+    private static void noRowOfLetters() {
+        DUE.sentence(CONTRACT, "IllegalStateException: the pad is not 2 .. 5 letters.");
+        for (String row : new String[] {"ab", "az", "zzz", "abcd", "abcde", "zzzzz"}) {
+            CaptionLines c = new CaptionLines();
+            DUE.answers(true, "contract(40) of " + row, () -> Due.contract(c, row, 40));
+        }
+        String[] none = {"", "a", "abcdef", "x".repeat(80), " ", "..", "  ", "a ", "ab ", " ab", "a b", "ab.", ".ab",
+            "a.b", "abcd.", "abcd ", " bcde", "ab de", "abcde."};
+        for (String row : none) {
+            for (int cell : new int[] {40, 29, 27, 64}) {
+                DUE.keepsAfter(x -> Due.retype(x, row), Due.STATE, "contract(" + cell + ") of \"" + row + "\"",
+                        x -> x.contract(cell));
+            }
+        }
+    }
+
+    private static void noCellForIt() {
+        DUE.sentence(CONTRACT, "IllegalArgumentException: cell is not 28 .. 63.");
+        for (int cell : new int[] {28, 63}) {
+            CaptionLines c = new CaptionLines();
+            DUE.answers(true, "contract(" + cell + ")", () -> Due.contract(c, "ab", cell));
+        }
+        for (int cell : new int[] {27, 64, -1, 0, 1, 26, 65, Integer.MIN_VALUE, Integer.MAX_VALUE}) {
+            DUE.keeps(Due.ARGUMENT, "contract(" + cell + ")", x -> x.contract(cell));
+            DUE.keepsAfter(x -> Due.retype(x, "the"), Due.ARGUMENT, "contract(" + cell + ") of the",
+                    x -> x.contract(cell));
+        }
+    }
+
+    private static void howManyCells() {
+        DUE.sentence(FINGERS, "What is shown of a caption as cells: how many");
+        CaptionLines c = new CaptionLines();
+        Due.text(c, 0, 0, "a");
+        DUE.answers(1, "one sign", () -> c.fingers(0, 0));
+        Due.text(c, 0, 0, "x".repeat(79) + ".");
+        DUE.answers(80, "80 signs, the latest version", () -> c.fingers(0, 0));
+        c.falls(4, 0);
+        DUE.answers(80, "by a fallback", () -> c.fingers(0, 4));
+        Due.contract(c, "xxxxx", 63);
+        DUE.answers(20, "15 times five, four and a stop", () -> c.fingers(0, 0));
+        Due.text(c, 0, 0, "x".repeat(80));
+        DUE.answers(16, "16 times five", () -> c.fingers(0, 0));
+        Due.text(c, 0, 4, "y");
+        DUE.answers(1, "its own", () -> c.fingers(0, 4));
+    }
+
+    private static void notShown() {
+        DUE.sentence(FINGERS, "NONE if it is not shown");
+        DUE.answers(-1, "a new object", () -> new CaptionLines().fingers(0, 0));
+        DUE.keeps(-1, "fingers(1, 0), no version", x -> x.fingers(1, 0));
+        DUE.keeps(-1, "fingers(0, 4), no fallback", x -> x.fingers(0, 4));
+        DUE.keeps(-1, "fingers(1, 3), fallbacks without a version", x -> x.fingers(1, 3));
+    }
+
+    private static void noCaptionOrLanguage() {
+        DUE.sentence(FINGERS, "IndexOutOfBoundsException");
+        DUE.takesCaptionAndLanguage("fingers", CaptionLines::fingers);
+    }
+
+    private static void cellOfTheLatest() {
+        DUE.sentence(CELL, "Cell k of the latest");
         CaptionLines c = new CaptionLines();
         written(c, 0, "ab cd", "1 2 0 3 4");
         DUE.answers(-1, "not shown", () -> c.fingers(1, 0));
-        DUE.answers("1 2 0 3 4", "the latest", () -> Due.cells(c));
-        contract(c, "ab", 60);
-        DUE.answers("1 2 0 3 4", "the latest behind a new contraction", () -> Due.cells(c));
-        DUE.answers(5, "back", c::back);
-        c.text(2, 2);
-        DUE.answers("ab cd", "read back as it was written", () -> Due.version(c, 2, 2, 0));
+        DUE.answers("1 2 0 3 4", "behind what is not shown", () -> Due.cells(c));
+        Due.contract(c, "ab", 60);
+        DUE.answers("1 2 0 3 4", "behind a new contraction", () -> Due.cells(c));
         DUE.answers(4, "anew", () -> c.fingers(0, 0));
         DUE.answers("60 0 3 4", "the latest", () -> Due.cells(c));
         Due.text(c, 0, 0, "z");
         DUE.answers("60 0 3 4", "behind a new version", () -> Due.cells(c));
         DUE.answers(1, "the new version", () -> c.fingers(0, 0));
-        DUE.answers("throws.IndexOutOfBoundsException", "a cell of those ahead", () -> c.cell(1));
-        c.falls(4, 0);
-        DUE.answers(1, "by a fallback", () -> c.fingers(0, 4));
-        DUE.answersAndKeeps(x -> { }, -1, "fingers(1, 0), not shown", x -> x.fingers(1, 0));
+        DUE.answers("26", "the latest", () -> Due.cells(c));
+        DUE.keeps(29, "cell(0)", x -> x.cell(0));
+        DUE.keeps(30, "cell(7)", x -> x.cell(7));
     }
 
-    private static void back() {
+    private static void noSuchCell() {
+        DUE.sentence(CELL, "IndexOutOfBoundsException");
+        for (int k : new int[] {-1, 0, 1}) {
+            DUE.answers(Due.INDEX, "cell(" + k + ") at first", () -> new CaptionLines().cell(k));
+        }
+        for (int k : new int[] {-1, 8, 9, 79, 80, Integer.MIN_VALUE, Integer.MAX_VALUE}) {
+            DUE.keeps(Due.INDEX, "cell(" + k + ")", x -> x.cell(k));
+        }
         CaptionLines c = new CaptionLines();
-        contract(c, "the", 28);
-        contract(c, "ing", 29);
-        String text = "the thing. is the king in there";
-        Due.text(c, 0, 0, text);
-        DUE.answers("throws.IllegalStateException", "back() ahead of fingers", c::back);
+        Due.text(c, 0, 0, "x".repeat(79) + ".");
         c.fingers(0, 0);
-        Due.type(c, "z ..");
-        DUE.answers(text.length(), "back()", c::back);
-        DUE.answers(text.length(), "the pad's signs", () -> c.count(0));
-        DUE.answers(text.length(), "back() again", c::back);
-        DUE.answers(0, "text", () -> c.text(0, 1));
-        DUE.answers(text, "what was in the pad is gone", () -> Due.version(c, 0, 1, 0));
-        DUE.answers(text.length(), "the cells stay", c::back);
-        CaptionLines full = Due.type(new CaptionLines(), "ab");
-        full.contract(63);
-        Due.text(full, 0, 0, "ab".repeat(40));
-        DUE.answers(40, "80 signs in 40 cells", () -> full.fingers(0, 0));
-        DUE.answers(80, "and back", full::back);
-        DUE.answers("throws.IllegalStateException", "a full pad", () -> full.unit('a'));
-        full.text(0, 0);
-        DUE.answers("ab".repeat(40), "80 signs", () -> Due.version(full, 0, 0, 1));
+        DUE.answers(27, "cell 79 of 80", () -> c.cell(79));
+        DUE.answers(Due.INDEX, "cell 80 of 80", () -> c.cell(80));
+        Due.text(c, 0, 0, "x");
+        c.fingers(0, 0);
+        DUE.answers(24, "cell 0 of 1", () -> c.cell(0));
+        DUE.answers(Due.INDEX, "cell 1 of 1, there ahead of it", () -> c.cell(1));
     }
 
-    private static void refusals() {
-        String[] none = {"", "a", "abcdef", "a b", "ab ", " ab", "ab.", ".ab", "a.b", " ", "..", "  "};
-        for (String row : none) {
-            DUE.refusesAfter(x -> retype(x, row), IllegalStateException.class, "contract(40) of \"" + row + "\"",
-                    x -> x.contract(40) ? 1 : 0);
-            DUE.refusesAfter(x -> retype(x, row), IllegalStateException.class, "contract(0) of \"" + row + "\"",
-                    x -> x.contract(0) ? 1 : 0);
+    private static void inPlaceOfThePad() {
+        DUE.sentence(BACK, "The latest cells read back come to the pad, in place of what it had");
+        String text = "the thing. is the king in there";
+        for (String had : new String[] {"", "z", "z ..", "z".repeat(79), "z".repeat(80)}) {
+            CaptionLines c = new CaptionLines();
+            Due.contract(c, "the", 28);
+            Due.contract(c, "ing", 63);
+            Due.text(c, 0, 0, text);
+            c.fingers(0, 0);
+            Due.type(c, had);
+            DUE.answers(text.length(), "back() to a pad of " + had.length(), c::back);
+            DUE.answers(text.length(), "the pad's signs", () -> c.count(0));
+            DUE.answers(text.length(), "back() again", c::back);
+            DUE.answers(0, "text", () -> c.text(0, 1));
+            DUE.answers(text, "its signs", () -> Due.version(c, 0, 1, 0));
+            DUE.answers(text.length(), "the cells stay", c::back);
         }
-        for (int cell : new int[] {27, 64, 0, -1, 1, Integer.MIN_VALUE, Integer.MAX_VALUE}) {
-            DUE.refuses(IllegalArgumentException.class, "contract(" + cell + ")", x -> x.contract(cell) ? 1 : 0);
-            DUE.refusesAfter(x -> retype(x, "the"), IllegalArgumentException.class, "contract(" + cell + ") of the",
-                    x -> x.contract(cell) ? 1 : 0);
+        CaptionLines c = new CaptionLines();
+        Due.text(c, 0, 0, "ab cd");
+        c.fingers(0, 0);
+        Due.contract(c, "ab", 60);
+        DUE.answers(5, "back() behind a new contraction", c::back);
+        c.text(2, 2);
+        DUE.answers("ab cd", "as it was written", () -> Due.version(c, 2, 2, 0));
+        DUE.keepsAfter(CaptionLines::back, 11, "back(), as it is", CaptionLines::back);
+        everySignComesBack();
+    }
+
+    private static void everySignComesBack() {
+        CaptionLines c = new CaptionLines();
+        String text = "abcdefghijklm. nopqrstuvwxyz.";
+        Due.text(c, 0, 0, text);
+        c.fingers(0, 0);
+        c.back();
+        c.text(0, 0);
+        DUE.answers(text, "every sign", () -> Due.version(c, 0, 0, 1));
+        CaptionLines all = new CaptionLines();
+        for (int cell = 28; cell <= 63; cell++) {
+            Due.contractTwo(all, cell);
         }
-        for (int bad : new int[] {-1, 10, Integer.MIN_VALUE, Integer.MAX_VALUE}) {
-            DUE.refuses(IndexOutOfBoundsException.class, "fingers(" + bad + ", 0)", x -> x.fingers(bad, 0));
-            DUE.refuses(IndexOutOfBoundsException.class, "fingers(0, " + bad + ")", x -> x.fingers(0, bad));
-        }
-        DUE.refuses(IndexOutOfBoundsException.class, "fingers(0, 5)", x -> x.fingers(0, 5));
-        for (int k : new int[] {-1, 8, 9, 80, Integer.MIN_VALUE, Integer.MAX_VALUE}) {
-            DUE.refuses(IndexOutOfBoundsException.class, "cell(" + k + ")", x -> x.cell(k));
-        }
-        DUE.answersAndKeeps(x -> { }, 29, "cell(0)", x -> x.cell(0));
-        DUE.answersAndKeeps(x -> { }, 30, "cell(7)", x -> x.cell(7));
+        String pairs = "qaqbqcqdqeqf.rarbrcrdrerf.sasbscsdsesf.".replace(".", ". ") + "tatbtctdtetf";
+        Due.text(all, 0, 0, pairs);
+        DUE.answers(24 + 6, "cells of 24 contractions", () -> all.fingers(0, 0));
+        all.back();
+        all.text(0, 0);
+        DUE.answers(pairs, "and back", () -> Due.version(all, 0, 0, 1));
+    }
+
+    private static void howManySigns() {
+        DUE.sentence(BACK, "how many signs");
+        CaptionLines c = new CaptionLines();
+        Due.contract(c, "ab", 63);
+        Due.text(c, 0, 0, "x");
+        c.fingers(0, 0);
+        DUE.answers(1, "one sign", c::back);
+        c.clear();
+        Due.text(c, 0, 0, "ab".repeat(40));
+        DUE.answers(40, "80 signs in 40 cells", () -> c.fingers(0, 0));
+        DUE.answers(80, "and back", c::back);
+        DUE.answers(Due.STATE, "a full pad", () -> c.unit('a'));
+        c.text(0, 0);
+        DUE.answers("ab".repeat(40), "80 signs", () -> Due.version(c, 0, 0, 2));
+    }
+
+    private static void thereWereNone() {
+        DUE.sentence(BACK, "IllegalStateException: there were none.");
         CaptionLines c = Due.type(new CaptionLines(), "ab");
-        DUE.answers("throws.IllegalStateException", "back() without cells", c::back);
+        DUE.answers(Due.STATE, "back() at first", c::back);
+        DUE.answers(-1, "fingers of what is not shown", () -> c.fingers(0, 0));
+        DUE.answers(Due.STATE, "back() behind it", c::back);
+        DUE.answers(2, "the pad's signs", () -> c.count(0));
         DUE.answers(0, "text", () -> c.text(0, 0));
         DUE.answers("ab", "the pad stayed", () -> Due.version(c, 0, 0, 0));
-    }
-
-    private static void retype(CaptionLines c, String row) {
-        c.clear();
-        Due.type(c, row);
+        DUE.answers(Due.STATE, "back() behind a text", c::back);
+        c.fingers(0, 0);
+        DUE.answers(2, "back() behind its cells", c::back);
     }
 }
