@@ -314,10 +314,27 @@ public final class TermsTest {
         written(c, 3, "ab", "63");
         written(c, 4, "aabcdeab.", "1 28 63 27");
         written(c, 5, "abcdab cde", "45 63 0 30");
+        longestWhateverItsCell();
         DUE.sentence(TERMS, "if there is one, else the sign's own");
         written(c, 6, "a b cd. e", "1 0 2 0 3 4 27 0 5");
         written(c, 7, "cdecd a bcde", "30 3 4 0 1 0 2 30");
         written(c, 8, "ba. ab", "2 1 27 0 63");
+    }
+
+    /** The longest neither by the lowest cell, nor by which one was first. */
+    private static void longestWhateverItsCell() {
+        CaptionLines last = new CaptionLines();
+        Due.contract(last, "ab", 28);
+        Due.contract(last, "abcde", 63);
+        written(last, 0, "abcde ab", "63 0 28");
+        CaptionLines first = new CaptionLines();
+        Due.contract(first, "abc", 63);
+        Due.contract(first, "ab", 28);
+        written(first, 0, "abcab", "63 28");
+        CaptionLines lower = new CaptionLines();
+        Due.contract(lower, "ab", 63);
+        Due.contract(lower, "abc", 28);
+        written(lower, 0, "abcab", "28 63");
     }
 
     private static void zones() {
