@@ -58,12 +58,23 @@ final class Due {
     /** The same behind some more calls that bring the object into the state that matters. */
     void keepsAfter(Consumer<CaptionLines> before, Object want, String call, On made) {
         answers(want, call, () -> made.answer(aBitOfEverythingAnd(before)));
-        String untouched = look(() -> aBitOfEverythingAnd(before));
-        answers(untouched, call + ", then a look at all", () -> look(() -> {
+        looksAlike(call, () -> aBitOfEverythingAnd(before), () -> {
             CaptionLines c = aBitOfEverythingAnd(before);
             said(() -> made.answer(c));
             return c;
-        }));
+        });
+    }
+
+    /**
+     * All that can be seen of objects is the same whether the call was made on them or not. Looking changes them,
+     * and what they answer behind their 512th call is free: so each look has one of its own, and under 300 calls.
+     */
+    void looksAlike(String call, Supplier<CaptionLines> untouched, Supplier<CaptionLines> touched) {
+        On[] looks = {Due::lookAtRows, Due::lookAtVersions, Due::lookAtFallbacks, Due::lookAtContractions,
+            Due::lookAtZones, Due::lookAtWays, Due::lookAtWaysBack};
+        for (On look : looks) {
+            answers(look.answer(untouched.get()), call + ", then a look", () -> look.answer(touched.get()));
+        }
     }
 
     /** Captions 0 and 9 and languages 0 and 4 are there; those beside them are refused, and nothing changes. */
@@ -186,20 +197,9 @@ final class Due {
         return c;
     }
 
-    /**
-     * All that can be seen of objects that are made alike. Looking changes them, and what they answer behind their
-     * 512th call is free: so each part is looked at on one of its own, with fewer than 300 calls.
-     */
-    static String look(Supplier<CaptionLines> made) {
-        return "rows " + lookAtRows(made.get()) + "\n versions " + lookAtVersions(made.get())
-                + "\n fallbacks " + lookAtFallbacks(made.get()) + "\n contractions " + lookAtContractions(made.get())
-                + "\n zones " + lookAtZones(made.get()) + "\n ways " + lookAtWays(made.get())
-                + "\n and back " + lookAtWaysBack(made.get());
-    }
-
     /** Counts, lines, cells and the pad, which can be seen once it is a text, behind an "a" if it must be. */
     private static String lookAtRows(CaptionLines c) {
-        StringBuilder seen = new StringBuilder();
+        StringBuilder seen = new StringBuilder("rows: ");
         for (int what = 0; what < 6; what++) {
             seen.append(c.count(what)).append(' ');
         }
@@ -219,7 +219,7 @@ final class Due {
     }
 
     private static String lookAtVersions(CaptionLines c) {
-        StringBuilder seen = new StringBuilder();
+        StringBuilder seen = new StringBuilder("versions: ");
         for (int caption = 0; caption < 10; caption++) {
             for (int language = 0; language < 5; language++) {
                 int a = caption;
@@ -237,7 +237,7 @@ final class Due {
 
     /** A caption in each language alone: where it is shown tells which languages reach that one. */
     private static String lookAtFallbacks(CaptionLines c) {
-        StringBuilder seen = new StringBuilder();
+        StringBuilder seen = new StringBuilder("fallbacks: ");
         for (int language = 0; language < 5; language++) {
             int caption = 4 + language;
             retype(c, "x").text(caption, language);
@@ -252,7 +252,7 @@ final class Due {
         c.clear();
         text(c, 9, 4, "then he. abc ab cab");
         c.fingers(9, 4);
-        StringBuilder seen = new StringBuilder(cells(c));
+        StringBuilder seen = new StringBuilder("contractions: ").append(cells(c));
         for (int cell = 28; cell <= 63; cell++) {
             c.clear();
             seen.append(contractTwo(c, cell) ? " free" : " taken");
@@ -261,7 +261,7 @@ final class Due {
     }
 
     private static String lookAtZones(CaptionLines c) {
-        StringBuilder seen = new StringBuilder();
+        StringBuilder seen = new StringBuilder("zones: ");
         for (int x = -12; x <= 30; x += 3) {
             for (int y = -9; y <= 9; y += 3) {
                 seen.append(c.heard(x, y)).append(' ');
@@ -271,7 +271,7 @@ final class Due {
     }
 
     private static String lookAtWays(CaptionLines c) {
-        StringBuilder seen = new StringBuilder();
+        StringBuilder seen = new StringBuilder("ways: ");
         for (int a = 0; a < 24; a++) {
             for (int b = a + 1; b < 24; b++) {
                 seen.append(c.way(a, b, true) ? '-' : '+');
@@ -281,7 +281,7 @@ final class Due {
     }
 
     private static String lookAtWaysBack(CaptionLines c) {
-        StringBuilder seen = new StringBuilder();
+        StringBuilder seen = new StringBuilder("ways back: ");
         for (int a = 0; a < 24; a++) {
             for (int b = a + 1; b < 24; b++) {
                 seen.append(c.way(b, a, true) ? '-' : '+');

@@ -106,12 +106,11 @@ public final class PadTest {
 
     private static void twoObjectsAreApart() {
         DUE.sentence(NEW, "A new object");
-        String untouched = Due.look(CaptionLines::new);
-        DUE.answers(untouched, "one made behind another one's calls", () -> Due.look(() -> {
+        DUE.looksAlike("one made ahead of another one's calls", CaptionLines::new, () -> {
             CaptionLines made = new CaptionLines();
             Due.aBitOfEverything();
             return made;
-        }));
+        });
     }
 
     private static void signBehindThePad() {
