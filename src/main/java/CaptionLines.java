@@ -12,6 +12,8 @@ public final class CaptionLines {
     private static final int MOST_WIDTH = 60;
     /** Words of one letter with a " " between them: no text of 80 signs has more. */
     private static final int MOST_WORDS = 40;
+    /** No text has more lines than words, and no line a rest of the whole width. */
+    private static final int ABOVE_ANY_SUM = MOST_WORDS * MOST_WIDTH * MOST_WIDTH;
     private static final int LEAST_CONTRACTED = 2;
     private static final int MOST_CONTRACTED = 5;
     private static final int FIRST_CONTRACTION = 28;
@@ -541,7 +543,7 @@ public final class CaptionLines {
          */
         private void findLeast(int width) {
             for (int first = words - 1; first >= 0; first--) {
-                leastFrom[first] = Integer.MAX_VALUE;
+                leastFrom[first] = ABOVE_ANY_SUM;
                 nextFirst[first] = words;
                 for (int next = first + 1; next <= words; next++) {
                     int rest = width - (wordEnds[next - 1] - wordBegins[first]);
