@@ -13,7 +13,7 @@ import java.util.TreeSet;
 import java.util.regex.Matcher;
 import java.util.regex.Pattern;
 
-/** Rules of LANGUAGE.md that can be seen in the text of the class, or in what is compiled of it. */
+/** Some rules of LANGUAGE.md, by patterns in the text of the class and by what is compiled of it; not all of them. */
 public final class LanguageTest {
     private static final Due DUE = new Due();
     private static final Path SOURCE = Path.of("src/main/java/CaptionLines.java");
